@@ -149,7 +149,8 @@ public final class PagesForAll {
 
     public int pairs() {
         reading.gather(parts.shownNow());
-        return reading.countAstray();
+        reading.compare();
+        return reading.astrayPairs;
     }
 
     // ---- keys
@@ -318,7 +319,7 @@ public final class PagesForAll {
 
     private static int lastOf(int partSet) {
         for (int p = MOST_PARTS - 1; p >= 0; p--) {
-            if (holds(partSet, p)) {
+            if ((partSet >> p & 1) != 0) {
                 return p;
             }
         }
@@ -369,7 +370,6 @@ public final class PagesForAll {
             int p = size;
             insertInOrder(p, parent);
             around[p] = has(parent) ? around[parent] | 1 << parent : 0;
-            within[p] = 0;
             for (int q = 0; q < p; q++) {
                 if (holds(around[p], q)) {
                     within[q] |= 1 << p;
@@ -399,16 +399,13 @@ public final class PagesForAll {
             return at;
         }
 
+        /** All else is 0 at first, as it is in a new row. */
         private void putFirstValues(int p, int parent, int kind) {
-            for (int what = OWN; what < HELD; what++) {
-                put(p, what, 0);
-            }
             put(p, LABEL, NONE);
             put(p, SECOND_LABEL, NONE);
             put(p, OPENS, NONE);
             put(p, KIND, kind);
             put(p, PARENT, parent);
-            put(p, INK, BLACK);
             put(p, GROUND, WHITE);
         }
 
@@ -564,15 +561,19 @@ public final class PagesForAll {
         }
     }
 
-    /** What is said, in order, as it was when last gathered. */
+    /** What is said, in order, as it was when last gathered; what of it is astray, as it was when last compared. */
     private static final class Reading {
         private final Parts parts;
         private final int[] row = new int[MOST_PARTS];
         private int size;
+        private int astray;
+        private int astrayPairs;
 
         private Reading(Parts parts) {
             this.parts = parts;
             this.size = 0;
+            this.astray = 0;
+            this.astrayPairs = 0;
         }
 
         private void gather(int shown) {
@@ -598,31 +599,17 @@ public final class PagesForAll {
             return k >= 0 && k < size ? row[k] : NONE;
         }
 
-        private int countAstray() {
-            int all = 0;
+        private void compare() {
+            astray = 0;
+            astrayPairs = 0;
             for (int i = 0; i < size; i++) {
-                all += countAstrayFrom(i);
-            }
-            return all;
-        }
-
-        private int countAstrayFrom(int i) {
-            int all = 0;
-            for (int j = i + 1; j < size; j++) {
-                if (isAstray(row[i], row[j])) {
-                    all++;
+                for (int j = i + 1; j < size; j++) {
+                    if (isAstray(row[i], row[j])) {
+                        astray |= 1 << row[i];
+                        astrayPairs++;
+                    }
                 }
             }
-            return all;
-        }
-
-        private boolean leadsAstray(int p) {
-            for (int i = 0; i < size; i++) {
-                if (row[i] == p) {
-                    return countAstrayFrom(i) > 0;
-                }
-            }
-            return false;
         }
 
         private boolean isAstray(int ahead, int later) {
@@ -702,7 +689,7 @@ public final class PagesForAll {
         private int turn(int from, int key, int shown) {
             int trap = parts.trapAround(from, shown);
             int among = trap == NONE ? shown : shown & parts.within[trap];
-            int at = spotToTurnFrom(from, among, key);
+            int at = holds(among, from) ? spotOf(from) : NONE;
             for (int i = 0; i < size; i++) {
                 at = key == NEXT ? spotBehind(at) : spotAhead(at);
                 if (holds(among, row[at])) {
@@ -712,22 +699,23 @@ public final class PagesForAll {
             return from;
         }
 
+        /** NONE leads to the first spot, as the last one does. */
         private int spotBehind(int at) {
             return at + 1 < size ? at + 1 : 0;
         }
 
+        /** NONE leads to the last spot, as the first one does. */
         private int spotAhead(int at) {
             return at > 0 ? at - 1 : size - 1;
         }
 
-        /** The spot of the focus; without one, the spot from which NEXT leads to the first and BACK to the last. */
-        private int spotToTurnFrom(int from, int among, int key) {
+        private int spotOf(int p) {
             for (int i = 0; i < size; i++) {
-                if (row[i] == from && holds(among, from)) {
+                if (row[i] == p) {
                     return i;
                 }
             }
-            return key == NEXT ? -1 : size;
+            return NONE;
         }
     }
 
@@ -884,21 +872,16 @@ public final class PagesForAll {
         private void gather() {
             int shown = parts.shownNow();
             reading.gather(shown);
+            reading.compare();
             size = 0;
             for (int p = 0; p < parts.size; p++) {
                 names.compose(p, shown);
-                if (holds(shown, p)) {
-                    gatherOf(p, shown);
-                }
-            }
-        }
-
-        private void gatherOf(int p, int shown) {
-            for (int sort = NAMELESS; sort < SORTS; sort++) {
-                if (hasFault(p, sort, shown)) {
-                    partRow[size] = p;
-                    sortRow[size] = sort;
-                    size++;
+                for (int sort = NAMELESS; sort < SORTS; sort++) {
+                    if (holds(shown, p) && hasFault(p, sort, shown)) {
+                        partRow[size] = p;
+                        sortRow[size] = sort;
+                        size++;
+                    }
                 }
             }
         }
@@ -914,7 +897,7 @@ public final class PagesForAll {
                 case CLOSED:
                     return parts.get(p, KIND) == TRAP && isClosed(p, shown);
                 case ASTRAY:
-                    return reading.leadsAstray(p);
+                    return holds(reading.astray, p);
                 default:
                     return isShort(p);
             }

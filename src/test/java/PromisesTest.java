@@ -27,10 +27,10 @@ public final class PromisesTest {
     }
 
     private static void dueSaid(String what, PagesForAll x, int... want) {
-        due(what + ": how many SAID", x.count(3), want.length);
         for (int k = 0; k < want.length; k++) {
             due(what + ": said " + k, x.said(k), want[k]);
         }
+        due(what + ": how many SAID", x.count(3), want.length);
         due(what + ": behind the last SAID", x.said(want.length), NONE);
         due(what + ": ahead of the first SAID", x.said(-1), NONE);
     }
@@ -55,10 +55,10 @@ public final class PromisesTest {
 
     /** The wrongs as part, sort, part, sort, and so on. */
     private static void dueWrongs(String what, PagesForAll x, int... want) {
-        due(what + ": how many wrongs", x.wrongs(), want.length / 2);
         for (int i = 0; i < want.length; i++) {
             due(what + ": wrong " + i / 2 + ", " + i % 2, x.wrong(i / 2, i % 2), want[i]);
         }
+        due(what + ": how many wrongs", x.wrongs(), want.length / 2);
         due(what + ": behind the last wrong", x.wrong(want.length / 2, 0), NONE);
         due(what + ": behind the last sort", x.wrong(want.length / 2, 1), NONE);
     }
@@ -696,11 +696,13 @@ public final class PromisesTest {
         dueWrongs("a pale text", x, 1, 2);
         due("45 on black", x.colours(1, 45 * 0x10101, 0), 4529);
         dueWrongs("no pale text", x);
+        due("62 green and 4 blue on black", x.colours(1, 62 * 256 + 4, 0), 4500);
+        dueWrongs("4500 is not below", x);
         for (int p = 1; p <= 5; p++) {
             due("25 on black", x.colours(p, 25 * 0x10101, 0), 2960);
         }
         dueWrongs("pale stops", x, 1, 2, 2, 2, 3, 2);
-        due("just 3000", x.colours(2, 0, 255000 / 10000 * 0x10101 + 7), 3000);
+        due("25 and 7 blue on black", x.colours(2, 0, 25 * 0x10101 + 7), 3000);
         dueWrongs("3000 is not below", x, 1, 2, 3, 2);
         x.set(1, OWN, 0);
         x.set(3, HIDDEN, 1);
