@@ -1,67 +1,6 @@
 /** Each promise of the document: ordinary inputs, the edges that it names, and wrong inputs, with the answers due. */
-public final class PromisesTest {
-    private static final int NONE = -1, UNKNOWN = -101, OUTSIDE = -102, STATE = -103, FULL = -104;
-    private static final int GROUP = 0, TEXT = 1, BUTTON = 2, FIELD = 3, PICTURE = 4, TRAP = 5, LIVE = 6;
-    private static final int OWN = 0, TOLD = 1, HINT = 2, LABEL = 3, SECOND_LABEL = 4, HIDDEN = 5, PLACE = 6,
-            OPENS = 7, WAIT = 8, LONGER = 9;
-    private static final int NEXT = 0, BACK = 1, ENTER = 2;
-    private static final int LEAST = Integer.MIN_VALUE, MOST = Integer.MAX_VALUE, WHITE = 16777215;
+public final class PromisesTest extends Checks {
     private static final int[] NO_PARTS = {LEAST, -2, -1, 5, 24, MOST};
-
-    private static int failures = 0;
-
-    private static void due(String what, long got, long want) {
-        if (got != want) {
-            failures++;
-            System.out.println(what + " answered " + got + ", due is " + want);
-        }
-    }
-
-    /** A page with parts of these kinds: parent, kind, parent, kind, and so on. */
-    private static PagesForAll page(int... parentsAndKinds) {
-        PagesForAll x = new PagesForAll();
-        for (int i = 0; i < parentsAndKinds.length; i += 2) {
-            due("part of page()", x.part(parentsAndKinds[i], parentsAndKinds[i + 1]), i / 2 + 1);
-        }
-        return x;
-    }
-
-    private static void dueSaid(String what, PagesForAll x, int... want) {
-        for (int k = 0; k < want.length; k++) {
-            due(what + ": said " + k, x.said(k), want[k]);
-        }
-        due(what + ": how many SAID", x.count(3), want.length);
-        due(what + ": behind the last SAID", x.said(want.length), NONE);
-        due(what + ": ahead of the first SAID", x.said(-1), NONE);
-    }
-
-    private static void dueStops(String what, PagesForAll x, int... want) {
-        due(what + ": how many STOPS", x.count(2), want.length);
-        for (int k = 0; k < want.length; k++) {
-            due(what + ": stop " + k, x.stop(k), want[k]);
-        }
-        due(what + ": behind the last STOP", x.stop(want.length), NONE);
-        due(what + ": ahead of the first STOP", x.stop(-1), NONE);
-    }
-
-    private static void dueName(String what, PagesForAll x, int p, int... want) {
-        due(what + ": how many words", x.name(p), want.length);
-        for (int k = 0; k < want.length; k++) {
-            due(what + ": word " + k, x.word(p, k), want[k]);
-        }
-        due(what + ": behind the last word", x.word(p, want.length), 0);
-        due(what + ": ahead of the first word", x.word(p, -1), 0);
-    }
-
-    /** The wrongs as part, sort, part, sort, and so on. */
-    private static void dueWrongs(String what, PagesForAll x, int... want) {
-        for (int i = 0; i < want.length; i++) {
-            due(what + ": wrong " + i / 2 + ", " + i % 2, x.wrong(i / 2, i % 2), want[i]);
-        }
-        due(what + ": how many wrongs", x.wrongs(), want.length / 2);
-        due(what + ": behind the last wrong", x.wrong(want.length / 2, 0), NONE);
-        due(what + ": behind the last sort", x.wrong(want.length / 2, 1), NONE);
-    }
 
     private static void newObject() {
         PagesForAll x = new PagesForAll();
@@ -347,15 +286,6 @@ public final class PromisesTest {
         PagesForAll y = page(0, FIELD, 1, TEXT);
         y.set(2, OWN, 1);
         dueSaid("a text in a field", y, 1, 2);
-    }
-
-    private static PagesForAll twoPictures(int... boxes) {
-        PagesForAll x = page(0, PICTURE, 0, PICTURE);
-        x.box(1, boxes[0], boxes[1], boxes[2], boxes[3]);
-        x.box(2, boxes[4], boxes[5], boxes[6], boxes[7]);
-        x.set(1, HINT, 1);
-        x.set(2, HINT, 2);
-        return x;
     }
 
     private static void pairs() {
@@ -820,21 +750,9 @@ public final class PromisesTest {
             due("ink on " + grounds[i], x.told(1, 16), inks[i]);
             due("ground stays " + grounds[i], x.told(1, 17), grounds[i]);
         }
-        int ground = groundOfLikeContrasts();
-        x.colours(1, ground, ground);
+        x.colours(1, 0x0a29c5, 0x0a29c5);
         due("like contrasts", x.mend(0), 0);
         due("of like ones black", x.told(1, 16), 0);
-    }
-
-    private static int groundOfLikeContrasts() {
-        PagesForAll x = new PagesForAll();
-        for (int ground = 0; ground <= WHITE; ground++) {
-            if (x.colours(0, 0, ground) == x.colours(0, WHITE, ground)) {
-                return ground;
-            }
-        }
-        due("a ground of like contrasts", 0, 1);
-        return 0;
     }
 
     private static void count() {
@@ -910,8 +828,6 @@ public final class PromisesTest {
         mend();
         count();
         digest();
-        if (failures > 0) {
-            System.exit(1);
-        }
+        end();
     }
 }
