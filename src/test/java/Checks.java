@@ -116,14 +116,17 @@ abstract class Checks {
 
     /** Runs every test of a class, each a static method without parameters, so that none can be forgotten. */
     static void runAll(Class<?> tests) throws IllegalAccessException {
+        int ran = 0;
         for (Method method : tests.getDeclaredMethods()) {
             boolean isTest = Modifier.isStatic(method.getModifiers()) && !Modifier.isPrivate(method.getModifiers())
                 && method.getParameterCount() == 0;
             if (isTest) {
                 run(method);
+                ran++;
             }
         }
         test = "";
+        due("whether " + tests.getName() + " has tests", ran > 0 ? 1 : 0, 1);
     }
 
     private static void run(Method method) throws IllegalAccessException {

@@ -678,6 +678,18 @@ public final class HeadingsTest extends Checks {
         }
     }
 
+    /** Promise 23: "the one with the greater CONTRAST": with its GROUND, not with the INK that it had. */
+    static void mendedInkIsOnTheGround() {
+        PagesForAll x = page(0, TEXT);
+        due("grey 40 on grey 50", x.colours(1, 0x282828, 0x323232), 1189);
+        due("mended", x.mend(0), 0);
+        due("black on grey 50", x.told(1, INK), 0);
+        due("grey 50 on grey 40", x.colours(1, 0x323232, 0x282828), 1189);
+        due("mended again", x.mend(0), 0);
+        due("white on grey 40", x.told(1, INK), WHITE);
+        due("its CONTRAST", x.contrast(1), 5075);
+    }
+
     /** Promise 23: "SHORT: it becomes LONGER." */
     static void mendedWaits() {
         PagesForAll x = page(0, GROUP);

@@ -256,6 +256,11 @@ public final class TermsTest extends Checks {
         dueSaid("in a HIDDEN TEXT", x, 1);
         x.set(1, HIDDEN, 1);
         dueSaid("none", x);
+        for (int kind : new int[] {GROUP, FIELD, PICTURE, TRAP, LIVE}) {
+            PagesForAll y = page(0, kind, 1, TEXT);
+            y.set(2, OWN, 1);
+            due("in kind " + kind, y.said(y.count(SAID_ONES) - 1), 2);
+        }
     }
 
     /** "and all SHOWN BUTTONS, FIELDS, PICTURES": without a NAME, too, and those in BUTTONS. */
@@ -672,6 +677,10 @@ public final class TermsTest extends Checks {
         dueWrongs("the inner one from the outer one", x, 2, CLOSED, 3, CLOSED);
         x.set(4, OPENS, 4);
         dueWrongs("itself", x, 2, CLOSED, 3, CLOSED);
+        due("a FIELD in the inner one", x.part(3, FIELD), 6);
+        x.set(6, OWN, 6);
+        x.set(6, OPENS, 2);
+        dueWrongs("by a FIELD", x, 2, CLOSED, 3, CLOSED);
     }
 
     /** "both having width and height above 0" */
@@ -691,6 +700,7 @@ public final class TermsTest extends Checks {
         dueWrongs("one beyond", twoPictures(0, 10000, 1, 1, 0, 1, 1, 10000));
         dueWrongs("one beyond, one less high", twoPictures(0, 10000, 1, 1, 0, 1, 1, 9999), 1, ASTRAY);
         dueWrongs("the most of all", twoPictures(0, 10000, 10000, 10000, 0, 10000, 10000, 10000));
+        dueWrongs("far above", twoPictures(0, 10000, 1, 1, 0, 0, 1, 1), 1, ASTRAY);
         dueWrongs("above, at the other side", twoPictures(0, 10, 1, 1, 10000, 9, 1, 1), 1, ASTRAY);
     }
 
@@ -699,6 +709,7 @@ public final class TermsTest extends Checks {
         dueWrongs("at the edge", twoPictures(10000, 0, 1, 1, 0, 0, 10000, 1), 1, ASTRAY);
         dueWrongs("one beyond", twoPictures(10000, 0, 1, 1, 1, 0, 10000, 1));
         dueWrongs("one beyond, one less wide", twoPictures(10000, 0, 1, 1, 1, 0, 9999, 1), 1, ASTRAY);
+        dueWrongs("far to the left", twoPictures(10000, 0, 1, 1, 0, 0, 1, 1), 1, ASTRAY);
         dueWrongs("to the right", twoPictures(0, 0, 1, 1, 1, 0, 1, 1));
     }
 
@@ -725,6 +736,17 @@ public final class TermsTest extends Checks {
         due("three pairs", x.pairs(), 3);
         x.set(4, HIDDEN, 1);
         dueWrongs("it is not SHOWN", x, 1, ASTRAY);
+    }
+
+    /** "of each by their sort": a sort comes once of a PART, however many others make it so. */
+    static void eachSortComesOnceOfAPart() {
+        PagesForAll x = page(0, FIELD, 0, FIELD, 0, FIELD, 0, FIELD);
+        for (int p = 1; p <= 4; p++) {
+            x.set(p, OWN, 7);
+            x.box(p, 0, 100 - 10 * p, 10, 10);
+        }
+        dueWrongs("TWINS of several, ASTRAY to several", x, 1, ASTRAY, 2, TWIN, 2, ASTRAY, 3, TWIN, 3, ASTRAY, 4, TWIN);
+        due("all pairs", x.pairs(), 6);
     }
 
     /** "SHORT: SHOWN, a WAIT from 1 to 19, not LONGER": of any KIND. */
