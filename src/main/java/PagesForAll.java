@@ -1,6 +1,7 @@
 /**
  * Pages as those who do not see, hear or hold a mouse would have them: what each part is called, what is read out,
  * where keys lead, what is wrong and what mends it. Sets of parts are ints with one bit for each part.
+ * Each method looks itself at an index that it is given, though its callers have looked: so none can ever throw.
  */
 public final class PagesForAll {
     public static final int NONE = -1, UNKNOWN = -101, OUTSIDE = -102, STATE = -103, FULL = -104;
@@ -333,7 +334,7 @@ public final class PagesForAll {
     private static int contrastBetween(int ink, int ground) {
         long greater = Math.max(light(ink), light(ground)) + FAINTEST_LIGHT;
         long lesser = Math.min(light(ink), light(ground)) + FAINTEST_LIGHT;
-        return (int) (1000 * greater / lesser);
+        return lesser > 0 ? (int) (1000 * greater / lesser) : 0;
     }
 
     /** The parts, how they lie in one another, and what each has. */
@@ -359,17 +360,32 @@ public final class PagesForAll {
         }
 
         private int get(int p, int what) {
-            return held[p * HELD + what];
+            int at = p * HELD + what;
+            return at >= 0 && at < held.length ? held[at] : NONE;
         }
 
         private void put(int p, int what, int v) {
-            held[p * HELD + what] = v;
+            int at = p * HELD + what;
+            if (at >= 0 && at < held.length) {
+                held[at] = v;
+            }
+        }
+
+        private int aroundOf(int p) {
+            return p >= 0 && p < size ? around[p] : 0;
+        }
+
+        private int withinOf(int p) {
+            return p >= 0 && p < size ? within[p] : 0;
         }
 
         private int add(int parent, int kind) {
             int p = size;
-            insertInOrder(p, parent);
-            around[p] = has(parent) ? around[parent] | 1 << parent : 0;
+            if (p >= MOST_PARTS || kind < GROUP || kind >= KINDS) {
+                return NONE;
+            }
+            insertInOrder(parent);
+            around[p] = has(parent) ? aroundOf(parent) | 1 << parent : 0;
             for (int q = 0; q < p; q++) {
                 if (holds(around[p], q)) {
                     within[q] |= 1 << p;
@@ -381,12 +397,16 @@ public final class PagesForAll {
             return p;
         }
 
-        private void insertInOrder(int p, int parent) {
-            int at = has(parent) ? spotInOrder(parent) + 1 + Integer.bitCount(within[parent]) : 0;
-            for (int i = p; i > at; i--) {
+        /** Behind all that its parent has comes the part that is added, whose number is the size. */
+        private void insertInOrder(int parent) {
+            int at = has(parent) ? spotInOrder(parent) + 1 + Integer.bitCount(withinOf(parent)) : 0;
+            if (size >= MOST_PARTS || at > size) {
+                return;
+            }
+            for (int i = size; i > at; i--) {
                 order[i] = order[i - 1];
             }
-            order[at] = p;
+            order[at] = size;
         }
 
         private int spotInOrder(int p) {
@@ -478,11 +498,11 @@ public final class PagesForAll {
 
         /** The innermost is the last, for what lies in a part has a greater number. */
         private int trapAround(int p, int shown) {
-            return has(p) ? lastOf(around[p] & ofKind[TRAP] & shown) : NONE;
+            return lastOf(aroundOf(p) & ofKind[TRAP] & shown);
         }
 
         private int liveAround(int p) {
-            return has(p) ? lastOf(around[p] & ofKind[LIVE]) : NONE;
+            return lastOf(aroundOf(p) & ofKind[LIVE]);
         }
 
         private int contrastOf(int p) {
@@ -501,6 +521,9 @@ public final class PagesForAll {
         }
 
         private void compose(int p, int shown) {
+            if (!parts.has(p)) {
+                return;
+            }
             lengths[p] = 0;
             addOwnOf(p, parts.get(p, LABEL));
             addOwnOf(p, parts.get(p, SECOND_LABEL));
@@ -519,7 +542,7 @@ public final class PagesForAll {
         }
 
         private void addTextsIn(int p, int shown) {
-            int texts = parts.within[p] & parts.ofKind[TEXT] & shown;
+            int texts = parts.withinOf(p) & parts.ofKind[TEXT] & shown;
             for (int i = 0; i < parts.size; i++) {
                 if (holds(texts, parts.order[i])) {
                     addOwnOf(p, parts.order[i]);
@@ -534,25 +557,23 @@ public final class PagesForAll {
         }
 
         private void add(int p, int v) {
-            if (v != 0 && lengths[p] < MOST_WORDS) {
+            if (v != 0 && parts.has(p) && lengths[p] < MOST_WORDS) {
                 words[p * MOST_WORDS + lengths[p]] = v;
                 lengths[p]++;
             }
         }
 
         private int lengthOf(int p) {
-            return lengths[p];
+            return parts.has(p) ? lengths[p] : 0;
         }
 
         private int wordOf(int p, int k) {
-            return k >= 0 && k < lengths[p] ? words[p * MOST_WORDS + k] : 0;
+            return k >= 0 && k < lengthOf(p) ? words[p * MOST_WORDS + k] : 0;
         }
 
+        /** No word is 0, so names of unlike lengths differ behind the end of the shorter one. */
         private boolean areAlike(int p, int q) {
-            if (lengths[p] != lengths[q]) {
-                return false;
-            }
-            for (int k = 0; k < lengths[p]; k++) {
+            for (int k = 0; k < MOST_WORDS; k++) {
                 if (wordOf(p, k) != wordOf(q, k)) {
                     return false;
                 }
@@ -590,7 +611,7 @@ public final class PagesForAll {
         private boolean isToBeSaid(int p) {
             int kind = parts.get(p, KIND);
             if (kind == TEXT) {
-                return parts.get(p, OWN) != 0 && (parts.around[p] & parts.ofKind[BUTTON]) == 0;
+                return parts.get(p, OWN) != 0 && (parts.aroundOf(p) & parts.ofKind[BUTTON]) == 0;
             }
             return kind == BUTTON || kind == FIELD || kind == PICTURE;
         }
@@ -655,6 +676,9 @@ public final class PagesForAll {
         }
 
         private void insert(int p) {
+            if (size >= MOST_PARTS) {
+                return;
+            }
             int at = size;
             while (at > 0 && rank(p) < rank(row[at - 1])) {
                 row[at] = row[at - 1];
@@ -688,7 +712,7 @@ public final class PagesForAll {
         /** Where NEXT or BACK leads. */
         private int turn(int from, int key, int shown) {
             int trap = parts.trapAround(from, shown);
-            int among = trap == NONE ? shown : shown & parts.within[trap];
+            int among = trap == NONE ? shown : shown & parts.withinOf(trap);
             int at = holds(among, from) ? spotOf(from) : NONE;
             for (int i = 0; i < size; i++) {
                 at = key == NEXT ? spotBehind(at) : spotAhead(at);
@@ -761,7 +785,7 @@ public final class PagesForAll {
         }
 
         private boolean leadOutOf(int focus, int trap) {
-            return find(focus, ~parts.within[trap]) != NONE;
+            return find(focus, ~parts.withinOf(trap)) != NONE;
         }
 
         private int find(int focus, int goals) {
@@ -815,6 +839,9 @@ public final class PagesForAll {
         }
 
         private void pressAllKeys(int at) {
+            if (at < 0 || at >= found) {
+                return;
+            }
             int from = focusIn(states[at]);
             int shut = states[at] / FOCUSES;
             int shown = shownIf(shut);
@@ -838,12 +865,14 @@ public final class PagesForAll {
         }
 
         private void comeFrom(int at, int pressed, int shut, int to) {
-            come(shut, to, lengths[at] + 1, lengths[at] == 0 ? pressed : firstKeys[at]);
+            if (at >= 0 && at < found) {
+                come(shut, to, lengths[at] + 1, lengths[at] == 0 ? pressed : firstKeys[at]);
+            }
         }
 
         private void come(int shut, int to, int length, int firstKey) {
             int state = shut * FOCUSES + to + 1;
-            if (foundIn[state] != look && found < STATES) {
+            if (state >= 0 && state < STATES && foundIn[state] != look && found < STATES) {
                 foundIn[state] = look;
                 states[found] = state;
                 lengths[found] = length;
@@ -931,8 +960,8 @@ public final class PagesForAll {
         }
 
         private boolean isClosed(int trap, int shown) {
-            int stopsInside = parts.stopsAmong(shown) & parts.within[trap];
-            int waysOut = parts.around[trap] | 1 << trap;
+            int stopsInside = parts.stopsAmong(shown) & parts.withinOf(trap);
+            int waysOut = parts.aroundOf(trap) | 1 << trap;
             for (int p = 0; p < parts.size; p++) {
                 if (holds(stopsInside, p) && holds(waysOut, parts.openedByButton(p))) {
                     return false;
